@@ -119,7 +119,7 @@ public final class SecondHelpings {
             case 6:
                 return course.hunger[p];
             case 7:
-                return course.partsOn(p);
+                return course.loads[p];
             case 8:
                 return heard.childrenOf(p);
             default:
@@ -344,7 +344,7 @@ public final class SecondHelpings {
             }
         }
         tape.length = 0;
-        return asTold ? trial.partsOn(p) : NONE;
+        return asTold ? trial.loads[p] : NONE;
     }
 
     public int kin(int p, int q) {
@@ -365,7 +365,7 @@ public final class SecondHelpings {
         if (!heard.hasPerson(p)) {
             return NONE;
         }
-        int parts = course.partsOn(p);
+        int parts = course.loads[p];
         int heir = course.heirOf(p, course.refusing);
         willLength = 0;
         writeName(heard.personNames[p]);
@@ -590,13 +590,15 @@ public final class SecondHelpings {
 
         final byte[] bytes = new byte[BYTES_OF_TAPE];
         final long[] words = new long[WORDS_IN_ALL];
+        final int[] tokens = new int[BYTES_OF_TAPE + 1];
+        final int[] places = new int[BYTES_OF_TAPE + 1];
+        final long[] values = new long[BYTES_OF_TAPE + 1];
         int length = 0;
-        int most = 0;
+        int read = 0;
         int at = 0;
         int token = END;
         int place = 0;
-        int number = 0;
-        long word = 0;
+        long value = 0;
         int fault = 0;
         int faultAt = 0;
 
@@ -642,12 +644,79 @@ public final class SecondHelpings {
             return i >= 0 && i < length && i < bytes.length ? bytes[i] & 255 : NONE;
         }
 
+        /** All TOKENS are read ahead; the last one is the end, or what lies beyond the most bytes. */
         void begin(int mostBytes) {
-            most = mostBytes;
-            at = 0;
+            int bound = Math.min(Math.min(length, mostBytes), bytes.length);
+            int behind = 0;
+            read = 0;
+            for (int i = 0; i < bound; i++) {
+                if (i >= behind && bytes[i] != ' ' && bytes[i] != '\n') {
+                    behind = readToken(i);
+                }
+            }
+            addToken(length > mostBytes ? NO_TOKEN : END, bound, 0);
             fault = 0;
             faultAt = 0;
+            at = -1;
             advance();
+        }
+
+        /** Answers the place behind it: a WORD or a NUMBER may go on beyond the most bytes. */
+        private int readToken(int from) {
+            int letters = 0;
+            int digits = 0;
+            long word = 0;
+            int number = 0;
+            int i = from;
+            while (i < length && i < bytes.length && (isLetter(bytes[i]) || isDigit(bytes[i]))) {
+                if (isLetter(bytes[i])) {
+                    word = withLetter(word, bytes[i]);
+                    letters++;
+                } else {
+                    number = number * 10 + bytes[i] - '0';
+                    digits++;
+                }
+                i++;
+            }
+            if (i == from) {
+                addToken(isSign(bytes[from]) ? bytes[from] : NO_TOKEN, from, 0);
+                return from + 1;
+            }
+            if (digits == 0 && letters <= MOST_LETTERS) {
+                addToken(tokenOfWord(word), from, word);
+            } else if (letters == 0 && digits <= MOST_DIGITS) {
+                addToken(NUMBER, from, number);
+            } else {
+                addToken(NO_TOKEN, from, 0);
+            }
+            return i;
+        }
+
+        private int tokenOfWord(long word) {
+            for (int i = 0; i < WORDS_IN_ALL; i++) {
+                if (words[i] == word) {
+                    return i;
+                }
+            }
+            return NAME;
+        }
+
+        private void addToken(int kind, int from, long itsValue) {
+            if (read < tokens.length) {
+                tokens[read] = kind;
+                places[read] = from;
+                values[read] = itsValue;
+                read++;
+            }
+        }
+
+        void advance() {
+            if (at + 1 < read) {
+                at++;
+                token = tokens[at];
+                place = places[at];
+                value = values[at];
+            }
         }
 
         /** Only the first FAULT counts: what reads a text stops at it. */
@@ -659,60 +728,6 @@ public final class SecondHelpings {
             return false;
         }
 
-        void advance() {
-            int bound = Math.min(Math.min(length, most), bytes.length);
-            while (at < bound && (bytes[at] == ' ' || bytes[at] == '\n')) {
-                at++;
-            }
-            if (at >= bound) {
-                place = bound;
-                token = length > most ? NO_TOKEN : END;
-                return;
-            }
-            place = at;
-            int first = bytes[at];
-            if (isLetter(first) || isDigit(first)) {
-                readWhole();
-            } else {
-                token = isSign(first) ? first : NO_TOKEN;
-                at++;
-            }
-        }
-
-        /** A WORD or a NUMBER may go on beyond the most bytes of the text, if it began ahead. */
-        private void readWhole() {
-            int letters = 0;
-            int digits = 0;
-            word = 0;
-            number = 0;
-            while (at < length && at < bytes.length && (isLetter(bytes[at]) || isDigit(bytes[at]))) {
-                if (isLetter(bytes[at])) {
-                    word = withLetter(word, bytes[at]);
-                    letters++;
-                } else {
-                    number = number * 10 + bytes[at] - '0';
-                    digits++;
-                }
-                at++;
-            }
-            if (digits == 0 && letters <= MOST_LETTERS) {
-                token = tokenOfWord();
-            } else if (letters == 0 && digits <= MOST_DIGITS) {
-                token = NUMBER;
-            } else {
-                token = NO_TOKEN;
-            }
-        }
-
-        private int tokenOfWord() {
-            for (int i = 0; i < WORDS_IN_ALL; i++) {
-                if (words[i] == word) {
-                    return i;
-                }
-            }
-            return NAME;
-        }
-
         boolean take(int wanted) {
             if (token != wanted) {
                 return fail(CANT_COME);
@@ -722,35 +737,30 @@ public final class SecondHelpings {
         }
 
         int takeNumber(int from, int to) {
-            int taken = number;
             if (token != NUMBER) {
                 fail(CANT_COME);
                 return NONE;
             }
-            if (taken < from || taken > to) {
+            if (value < from || value > to) {
                 fail(WRONG_NUMBER);
                 return NONE;
             }
+            int taken = (int) value;
             advance();
             return taken;
         }
 
-        int takePerson(Table table) {
-            return takeFound(token == NAME ? table.personNamed(word) : NONE);
-        }
-
-        int takeDish(Table table) {
-            return takeFound(token == NAME ? table.dishNamed(word) : NONE);
-        }
-
-        private int takeFound(int found) {
+        /** Takes a NAME that was looked up already, and answers what was found. */
+        int takeName(int found) {
             if (token != NAME) {
                 fail(CANT_COME);
-            } else if (found == NONE) {
-                fail(WRONG_NAME);
-            } else {
-                advance();
+                return NONE;
             }
+            if (found == NONE) {
+                fail(WRONG_NAME);
+                return NONE;
+            }
+            advance();
             return found;
         }
     }
@@ -881,6 +891,7 @@ public final class SecondHelpings {
         final Table table;
         final int[] parts = new int[MOST_DISHES];
         final int[] plates = new int[PLATES];
+        final int[] loads = new int[MOST_PERSONS];
         final int[] eaten = new int[MOST_PERSONS];
         final int[] atMeal = new int[MOST_PERSONS];
         final int[] hunger = new int[MOST_PERSONS];
@@ -904,6 +915,7 @@ public final class SecondHelpings {
                 plates[i] = 0;
             }
             for (int p = 0; p < MOST_PERSONS; p++) {
+                loads[p] = 0;
                 eaten[p] = 0;
                 atMeal[p] = 0;
                 hunger[p] = 0;
@@ -919,6 +931,7 @@ public final class SecondHelpings {
         void become(Course other) {
             System.arraycopy(other.parts, 0, parts, 0, MOST_DISHES);
             System.arraycopy(other.plates, 0, plates, 0, PLATES);
+            System.arraycopy(other.loads, 0, loads, 0, MOST_PERSONS);
             System.arraycopy(other.eaten, 0, eaten, 0, MOST_PERSONS);
             System.arraycopy(other.atMeal, 0, atMeal, 0, MOST_PERSONS);
             System.arraycopy(other.hunger, 0, hunger, 0, MOST_PERSONS);
@@ -942,16 +955,10 @@ public final class SecondHelpings {
             return plates[p * MOST_DISHES + d];
         }
 
+        /** The load of each plate is kept beside it, as an ORDER asks for it at every step. */
         void addToPlate(int p, int d, int n) {
             plates[p * MOST_DISHES + d] += n;
-        }
-
-        int partsOn(int p) {
-            int sum = 0;
-            for (int d = 0; d < table.dishes; d++) {
-                sum += onPlate(p, d);
-            }
-            return sum;
+            loads[p] += n;
         }
 
         int onPlatesOf(int set, int d) {
@@ -1076,7 +1083,7 @@ public final class SecondHelpings {
             if (!lives(p)) {
                 return IS_DEAD;
             }
-            if (partsOn(p) == 0) {
+            if (loads[p] == 0) {
                 return TOO_FEW;
             }
             passOn(p);
@@ -1110,7 +1117,7 @@ public final class SecondHelpings {
                 return IS_DEAD;
             }
             dead |= 1 << p;
-            if (partsOn(p) > 0) {
+            if (loads[p] > 0) {
                 passOn(p);
             }
             return 0;
@@ -1257,7 +1264,7 @@ public final class SecondHelpings {
             if (tape.token != Tape.NAME) {
                 return tape.fail(Tape.CANT_COME);
             }
-            if (heard.personNamed(tape.word) != NONE || heard.dishNamed(tape.word) != NONE) {
+            if (heard.personNamed(tape.value) != NONE || heard.dishNamed(tape.value) != NONE) {
                 return tape.fail(Tape.WRONG_NAME);
             }
             tape.advance();
@@ -1270,7 +1277,7 @@ public final class SecondHelpings {
                 return tape.fail(Tape.TOO_MANY);
             }
             tape.advance();
-            long name = tape.word;
+            long name = tape.value;
             if (!newName(tape)) {
                 return false;
             }
@@ -1281,7 +1288,7 @@ public final class SecondHelpings {
             int parent = NONE;
             if (tape.token == Tape.OF) {
                 tape.advance();
-                parent = tape.takePerson(heard);
+                parent = tape.takeName(heard.personNamed(tape.value));
                 if (parent == NONE) {
                     return false;
                 }
@@ -1298,7 +1305,7 @@ public final class SecondHelpings {
                 return tape.fail(Tape.TOO_MANY);
             }
             tape.advance();
-            long name = tape.word;
+            long name = tape.value;
             if (!newName(tape)) {
                 return false;
             }
@@ -1323,15 +1330,15 @@ public final class SecondHelpings {
 
         private boolean readPlate(Tape tape) {
             tape.advance();
-            int p = tape.takePerson(heard);
+            int p = tape.takeName(heard.personNamed(tape.value));
             if (p == NONE) {
                 return false;
             }
-            int d = tape.token == Tape.NAME ? heard.dishNamed(tape.word) : NONE;
-            if (d != NONE && start.onPlate(p, d) > 0) {
+            int d = heard.dishNamed(tape.value);
+            if (tape.token == Tape.NAME && d != NONE && start.onPlate(p, d) > 0) {
                 return tape.fail(Tape.WRONG_NAME);
             }
-            if (tape.takeDish(heard) == NONE) {
+            if (tape.takeName(d) == NONE) {
                 return false;
             }
             int parts = tape.takeNumber(1, MOST_ON_PLATE);
@@ -1401,7 +1408,7 @@ public final class SecondHelpings {
             if (!named && tape.token != Tape.MEAL) {
                 return tape.fail(Tape.CANT_COME);
             }
-            int p = named ? table.personNamed(tape.word) : NONE;
+            int p = named ? table.personNamed(tape.value) : NONE;
             if (named && p == NONE) {
                 return tape.fail(Tape.WRONG_NAME);
             }
@@ -1425,7 +1432,7 @@ public final class SecondHelpings {
             tape.advance();
             acts[lines] = act;
             if (act == Tape.EATS || act == Tape.SERVED) {
-                dishes[lines] = tape.takeDish(table);
+                dishes[lines] = tape.takeName(table.dishNamed(tape.value));
                 if (dishes[lines] == NONE) {
                     return false;
                 }
@@ -1575,11 +1582,11 @@ public final class SecondHelpings {
 
         private boolean readPlainOne(Tape tape, Table table, int first) {
             if (first == Tape.OF) {
-                int p = tape.takePerson(table);
+                int p = tape.takeName(table.personNamed(tape.value));
                 return p != NONE && addStep(first, 0, p);
             }
             if (first == Tape.HAS) {
-                int d = tape.takeDish(table);
+                int d = tape.takeName(table.dishNamed(tape.value));
                 return d != NONE && addStep(first, 0, d);
             }
             if (first < Tape.HAS) {
@@ -1644,7 +1651,7 @@ public final class SecondHelpings {
                 case Tape.REFUSED:
                     return (course.refusing >> p & 1) != 0;
                 case Tape.CLEAN:
-                    return course.partsOn(p) == 0;
+                    return course.loads[p] == 0;
                 case Tape.OF:
                     return course.table.parents[p] == numbers[i];
                 case Tape.HAS:
@@ -1723,7 +1730,7 @@ public final class SecondHelpings {
             int wanted = 0;
             for (int p = 0; p < course.table.persons; p++) {
                 if ((others >> p & 1) != 0) {
-                    wanted += course.wantsYet(p) - course.partsOn(p);
+                    wanted += course.wantsYet(p) - course.loads[p];
                 }
             }
             return Math.max(wanted, 0);
