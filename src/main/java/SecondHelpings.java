@@ -590,9 +590,9 @@ public final class SecondHelpings {
 
         final byte[] bytes = new byte[BYTES_OF_TAPE];
         final long[] words = new long[WORDS_IN_ALL];
-        final int[] tokens = new int[BYTES_OF_TAPE + 1];
-        final int[] places = new int[BYTES_OF_TAPE + 1];
-        final long[] values = new long[BYTES_OF_TAPE + 1];
+        final int[] tokens = new int[BYTES_OF_TABLE + 1];
+        final int[] places = new int[BYTES_OF_TABLE + 1];
+        final long[] values = new long[BYTES_OF_TABLE + 1];
         int length = 0;
         int read = 0;
         int at = 0;

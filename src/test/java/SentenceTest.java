@@ -178,6 +178,9 @@ public final class SentenceTest {
         faulty(twenty + " or zoe", 1, twenty.length() + 4);
         faulty(twenty + " or", 1, twenty.length() + 3);
         faulty(twenty + " dead", 1, twenty.length() + 1);
+        String ands = "dead" + " and dead".repeat(19);
+        holds(ands, 20, 8);
+        faulty(ands + " and clean", 4, ands.length() + 5);
         // each 'not' and each bracket counts
         String nots = "not dead and " + "(dead) or ".repeat(8) + "not clean";
         holds(nots, 20, 11);
