@@ -5,8 +5,14 @@ import java.util.NoSuchElementException;
 final class Check {
     private static int wrong = 0;
     private static int right = 0;
+    private static String sentence = "";
 
     private Check() {
+    }
+
+    /** The document's sentence that the answers from here on belong to: it is told with a wrong one. */
+    static void says(String words) {
+        sentence = " (" + words + ")";
     }
 
     static void due(String call, long got, long want) {
@@ -14,7 +20,7 @@ final class Check {
             right++;
         } else {
             wrong++;
-            System.out.println(call + " answered " + got + ", due is " + want);
+            System.out.println(call + " answered " + got + ", due is " + want + sentence);
         }
     }
 
@@ -27,7 +33,7 @@ final class Check {
             right++;
         } else {
             wrong++;
-            System.out.println(call + " answered '" + got + "', due is '" + want + "'");
+            System.out.println(call + " answered '" + got + "', due is '" + want + "'" + sentence);
         }
     }
 
@@ -75,6 +81,27 @@ final class Check {
     static int sentence(SecondHelpings x, String text) {
         feed(x, text);
         return x.sentence();
+    }
+
+    /** A TABLE with a FAULT, on a new object: its kind and place. */
+    static void tableFault(String text, int kind, int place) {
+        SecondHelpings x = new SecondHelpings();
+        due("table of '" + text + "'", table(x, text), -1 - place);
+        due("fault of '" + text + "'", x.fault(), kind);
+    }
+
+    /** A BOOK with a FAULT, at a TABLE that is told. */
+    static void bookFault(String told, String text, int kind, int place) {
+        SecondHelpings x = at(told);
+        due("book of '" + text + "'", book(x, text, 0), -2 - place);
+        due("fault of '" + text + "'", x.fault(), kind);
+    }
+
+    /** A SENTENCE with a FAULT, at a TABLE that is told. */
+    static void sentenceFault(String told, String text, int kind, int place) {
+        SecondHelpings x = at(told);
+        due("sentence of '" + text + "'", sentence(x, text), -1 - place);
+        due("fault of '" + text + "'", x.fault(), kind);
     }
 
     static SecondHelpings at(String text) {
