@@ -451,6 +451,14 @@ public final class EdgesOfTextsTest {
         said("number=0 or number=2 and number=2 or number=3", 13);
         said("number<2 and number>0 or number>1 and number<3", 6);
         said("not not not number=1", 13);
+        // deeper ones are worked out ahead of what waits for them
+        said("number=0 or number=1 and (number=1 or number=2)", 3);
+        said("number=0 or number=1 and (number=2 or number=3)", 1);
+        said("number=3 or number<3 and (number=2 and number>1 or number=0 and (number=0 or number=1))", 13);
+        said("number=0 or (number=1 or (number=2 or (number=3 or number=9)))", 15);
+        said("number<4 and (number<3 and (number<2 and (number<1 and number<9)))", 1);
+        said("number>2 or (number<3 and (number>0 or (number=0 and not (number=0 or number=1))))", 14);
+        said("not (number=0 or not (number=1 or number=0)) and (number>0 or number=0)", 2);
     }
 
     // ---- FAULTS
