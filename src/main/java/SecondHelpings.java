@@ -20,6 +20,8 @@ public final class SecondHelpings {
     private static final int MOST_SEEDS = 30;
     private static final int MEALS_OF_ODDS = 10;
     private static final int IMAGES = 2;
+    /** Above all that PERSONS can want, and all sets of them: what is looked for is less. */
+    private static final int MORE_THAN_ALL = 1000;
 
     private static final int BYTES_OF_FEED = 20;
     private static final int BYTES_OF_TAPE = 940;
@@ -1695,7 +1697,7 @@ public final class SecondHelpings {
 
         int findFrom(Course course) {
             places = Integer.bitCount(course.living());
-            fewest = Integer.MAX_VALUE;
+            fewest = MORE_THAN_ALL;
             courses[0].become(course);
             goOn(0, course.living(), 0);
             return fewest;
@@ -1830,7 +1832,7 @@ public final class SecondHelpings {
 
         private int nearestToHalf(int persons, int sets) {
             int nearest = NONE;
-            int least = Integer.MAX_VALUE;
+            int least = MORE_THAN_ALL;
             for (int p = 0; p < persons; p++) {
                 int off = Math.abs(2 * setsOf[p] - sets);
                 if (off < least) {

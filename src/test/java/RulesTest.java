@@ -16,6 +16,9 @@ public final class RulesTest {
             "java/lang/Math.abs", "java/lang/Integer.bitCount", "java/lang/System.arraycopy", "java/lang/String.length",
             "java/lang/String.charAt", "java/util/NoSuchElementException.<init>");
 
+    /** Of the library's classes only functions are listed: Integer.MAX_VALUE is none, and leaves no trace in a class file. */
+    private static final String LISTED = "\\b(Math\\.(min|max|abs)|Integer\\.bitCount|System\\.arraycopy)\\(";
+
     public static void main(String[] args) throws IOException {
         library();
         source();
@@ -76,6 +79,8 @@ public final class RulesTest {
             String code = line.replaceAll("//.*|^\\s*/?\\*.*", "").replaceAll("\"[^\"]*\"", "\"\"");
             Check.due("line " + (i + 1) + ": " + line, code.matches(
                     ".*(->|::|\\bcatch\\b|\\bfinally\\b|\\bsynchronized\\b|\\bassert\\b|\\bpackage\\b|\"\\s*\\+|\\+\\s*\").*"), false);
+            Check.due("library of line " + (i + 1) + ": " + line, code.replaceAll(LISTED, "").matches(
+                    ".*\\b(Integer|Long|Short|Byte|Character|Boolean|Math|System|Arrays|Objects|String)\\..*"), false);
             Check.due("signs of line " + (i + 1), line.chars().allMatch(c -> c >= 32 && c < 127), true);
             imports += code.startsWith("import ") ? 1 : 0;
             if (line.matches(" {4}(    )?[a-zA-Z].*\\) (throws \\w+ )?\\{")) {
